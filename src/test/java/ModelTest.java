@@ -5,13 +5,17 @@ import java.util.TreeMap;
 public final class ModelTest {
     private static final int RUNS = 400;
     private static final int CALLS = 512;
+    private static final int EARLIEST_END = 380;
+    /** A power of two: the first riddles have their number modulo this as their key. */
+    private static final int KEYS = 4;
     private static final int[] ODD = {-1, 0, 1, 8, 16, 20, 21, 40, 41, 50, 51, 100, 101, 200, 500, 501, 1000, 1001,
         9999, 10000, Integer.MAX_VALUE, Integer.MIN_VALUE};
-    /** Not met in such runs: the minute beyond 20000 needs a run of its own, which PromiseTest makes. */
+    /** What the runs must have met, so that they don't become too tame. */
     private static final String[] DUE_KINDS = {"answer throws.IllegalArgumentException",
         "answer throws.IllegalStateException", "answer throws.IndexOutOfBoundsException", "answer false", "answer true",
         "hint throws.IllegalStateException", "price throws.NoSuchElementException", "clear true", "clear false",
         "clear throws.IllegalStateException", "isVoid true", "isFree true", "isCheated true", "areLinked true",
+        "need 4", "openedAt 100", "end 2", "likeness 9", "scoreAnew -20",
         "need throws.IllegalStateException", "prize throws.IllegalStateException", "pardon true", "pardon false"};
 
     private final Check check = new Check();
@@ -21,7 +25,8 @@ public final class ModelTest {
     private long seed;
     private int teams;
     private int riddles;
-    private boolean patient;
+    private int words;
+    private int keen;
 
     public static void main(String[] args) {
         ModelTest test = new ModelTest();
@@ -40,13 +45,21 @@ public final class ModelTest {
         seed = number * 7919L + 17;
         teams = 2 + number % 7;
         riddles = 1 + number % 16;
-        patient = number % 3 == 0;
+        words = 4 + number % 5;
+        keen = number % 3 * 2;
+        int needs = number % 4 == 0 ? 0 : riddles;
         int calls = 0;
         for (; calls < teams; calls++) {
             same("addTeam", program::addTeam, model::addTeam);
         }
-        for (; calls < teams + riddles; calls++) {
-            build();
+        for (int made = 0; made < riddles; made++, calls++) {
+            addRiddle(made % KEYS, made % 3 == 0 ? 0 : below(30));
+        }
+        for (int made = 0; made < needs; made++, calls++) {
+            need();
+        }
+        for (int place = 1; place <= teams; place++, calls++) {
+            setPrize(place, below(200));
         }
         for (; calls < CALLS; calls++) {
             step(calls);
@@ -54,14 +67,14 @@ public final class ModelTest {
     }
 
     private void step(int calls) {
-        int pick = below(100);
-        if (pick < 40) {
+        int pick = calls < EARLIEST_END ? below(99) : below(100) / 2 + 50;
+        if (pick < 45) {
             play();
-        } else if (pick < 50) {
+        } else if (pick < 55) {
             judge();
         } else if (pick < 94) {
             look();
-        } else if (pick < 99 || calls < 400) {
+        } else if (pick < 99) {
             build();
         } else {
             same("end", program::end, model::end);
@@ -70,33 +83,43 @@ public final class ModelTest {
 
     private void build() {
         int pick = below(8);
-        int one = oddOr(riddles);
-        int two = oddOr(Math.max(1, one));
-        if (pick == 0) {
-            int minutes = oddOr(20);
+        if (pick < 2) {
+            int minutes = oddOr(60);
             same("pass", () -> program.pass(minutes), () -> model.pass(minutes));
-        } else if (pick < 3) {
-            same("need", () -> program.need(one, two), () -> model.need(one, two));
-        } else if (pick == 3) {
+        } else if (pick < 6) {
+            need();
+        } else if (pick == 6) {
             same("addTeam", program::addTeam, model::addTeam);
         } else {
-            int points = 1 + oddOr(20);
-            int key = oddOr(3);
-            int least = below(3) * below(6);
-            int price = 1 + oddOr(12);
-            same("addRiddle", () -> program.addRiddle(points, key, least, price),
-                () -> model.addRiddle(points, key, least, price));
+            addRiddle(oddOr(KEYS), oddOr(20));
         }
+    }
+
+    private void addRiddle(int key, int least) {
+        int points = 1 + oddOr(20);
+        int price = 1 + oddOr(30);
+        same("addRiddle", () -> program.addRiddle(points, key, least, price),
+            () -> model.addRiddle(points, key, least, price));
+    }
+
+    private void need() {
+        int riddle = oddOr(riddles);
+        int other = oddOr(Math.max(1, riddle));
+        same("need", () -> program.need(riddle, other), () -> model.need(riddle, other));
+    }
+
+    private void setPrize(int place, int coins) {
+        same("setPrize", () -> program.setPrize(place, coins), () -> model.setPrize(place, coins));
     }
 
     private void play() {
         int team = oddOr(teams);
         int riddle = oddOr(riddles);
-        int pick = below(10);
-        if (pick < 7) {
-            int word = oddOr(patient ? 9 : 5);
+        int pick = below(12);
+        if (pick < 9) {
+            int word = pick < keen ? riddle & KEYS - 1 : oddOr(words);
             same("answer", () -> program.answer(team, riddle, word), () -> model.answer(team, riddle, word));
-        } else if (pick < 9) {
+        } else if (pick < 10) {
             same("hint", () -> program.hint(team, riddle), () -> model.hint(team, riddle));
         } else {
             int minutes = 1 + below(9);
@@ -117,9 +140,7 @@ public final class ModelTest {
         } else if (pick == 2) {
             same("clear", () -> program.clear(team, riddle), () -> model.clear(team, riddle));
         } else {
-            int coins = oddOr(100);
-            int place = oddOr(9);
-            same("setPrize", () -> program.setPrize(place, coins), () -> model.setPrize(place, coins));
+            setPrize(oddOr(9), oddOr(100));
         }
     }
 
