@@ -166,10 +166,13 @@ public final class PromiseTest {
         check.refused("5 answered", STATE, () -> x.need(1, 0));
         x.hint(0, 2);
         check.refused("5 hinted", STATE, () -> x.need(2, 0));
+        check.refused("5 answered before the hint", STATE, () -> x.need(1, 0));
         check.due("5 the answered one can be needed", 1, () -> x.need(3, 1));
         check.due("5 the hinted one can be needed", 2, () -> x.need(3, 2));
         check.refused("5 not open", STATE, () -> x.answer(0, 3, 0));
         check.due("5 a refused answer does not fix it", 3, () -> x.need(3, 0));
+        x.answer(0, 0, 77);
+        check.refused("5 hinted before the answer", STATE, () -> x.need(2, 0));
     }
 
     private static void addTeam() {
@@ -358,10 +361,15 @@ public final class PromiseTest {
         check.refused("13 in time", STATE, () -> x.clear(0, 0));
         check.due("13 free all the same", true, () -> x.clear(0, quick));
         check.refused("13 twice", STATE, () -> x.clear(0, quick));
+        int second = x.addRiddle(7, 7, 100, 1);
+        x.answer(0, second, 7);
+        check.due("13 another one", false, () -> x.clear(0, second));
+        check.refused("13 the first again", STATE, () -> x.clear(0, quick));
         x.end();
         check.due("13 the last one, after the end", false, () -> x.clear(1, quick));
         check.due("13 counts now", 7, () -> x.score(1));
         check.due("13 counts for all", 7, () -> x.score(2));
+        check.due("13 none is free", false, () -> x.isFree(quick) || x.isFree(second));
         for (int number : NO_NUMBERS) {
             check.refused("13 no team", NONE_SUCH, () -> x.clear(number, quick));
             check.refused("13 no riddle", NONE_SUCH, () -> x.clear(0, number));
@@ -425,6 +433,8 @@ public final class PromiseTest {
 
     private static void likeness() {
         PuzzleRegistry x = game(3, 3);
+        x.answer(2, 0, 6000);
+        check.due("17 given by one alone", 0, () -> x.likeness(2, 0) + x.likeness(2, 1));
         share(x, 0, 1, 0, 2);
         check.due("17 two", 2, () -> x.likeness(0, 1));
         share(x, 1, 0, 0, 2);
@@ -474,6 +484,11 @@ public final class PromiseTest {
         x.answer(0, 2, 9);
         x.answer(2, 2, 9);
         check.due("19 in common with another alone", false, () -> x.isCheated(0, 2));
+        check.due("19 both riddles", true, () -> x.isCheated(0, 0) && x.isCheated(0, 1));
+        check.due("19 both riddles of the other", true, () -> x.isCheated(1, 0) && x.isCheated(1, 1));
+        x.setBound(1);
+        check.due("19 the first of two linked", true, () -> x.isCheated(0, 1));
+        check.due("19 the second of two linked", true, () -> x.isCheated(0, 2));
         for (int number : NO_NUMBERS) {
             check.refused("19 no team", NONE_SUCH, () -> x.isCheated(number, 0));
             check.refused("19 no riddle", NONE_SUCH, () -> x.isCheated(0, number));
@@ -565,9 +580,32 @@ public final class PromiseTest {
         check.due("23 cleared", 16, () -> x.scoreAnew(0));
         check.due("23 cleared for the solver", 50, () -> x.scoreAnew(1));
         check.due("23 as it is kept", 16, () -> x.score(0));
+        scoreAnewFromTheFirstAnswer();
         for (int number : NO_NUMBERS) {
             check.refused("23 no team", NONE_SUCH, () -> x.scoreAnew(number));
         }
+    }
+
+    private static void scoreAnewFromTheFirstAnswer() {
+        PuzzleRegistry x = game(2, 1);
+        int quick = x.addRiddle(5, 1, 9, 4);
+        x.pass(9);
+        x.answer(0, quick, 1);
+        check.due("23 just in time", 5, () -> x.scoreAnew(0));
+        check.due("23 the first answer is right", 0, () -> x.scoreAnew(1));
+        PuzzleRegistry y = game(2, 1);
+        y.setBound(1);
+        y.answer(0, 0, 5);
+        y.answer(1, 0, 5);
+        y.answer(1, 0, 0);
+        y.answer(0, 0, 0);
+        check.due("23 the first answer is in common", 0, () -> y.scoreAnew(1));
+        check.due("23 for both", 0, () -> y.scoreAnew(0));
+        PuzzleRegistry z = game(2, 2);
+        share(z, 0, 1, 1, 3);
+        z.answer(0, 0, 0);
+        z.answer(0, 1, 1);
+        check.due("23 linked, but only one riddle cheated", 10, () -> z.scoreAnew(0));
     }
 
     /** Team 0 and 1 with 10 points each in the minute 0, team 2 with as many in 5, team 3 with 20, team 4 with -20. */
