@@ -239,9 +239,6 @@ public final class PuzzleRegistry {
     }
 
     public int teamAt(int at) {
-        if (at < 0 || at >= teamCount) {
-            return NONE;
-        }
         rateTeams();
         for (int team = 0; team < teamCount; team++) {
             if (countBetter(team) + countAlike(team, team) == at) {
