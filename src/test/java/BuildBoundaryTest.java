@@ -180,6 +180,9 @@ public final class BuildBoundaryTest {
             .refused(STATE, "need", 1, 0);
         run("5 an answer to the other one fixes nothing").with(2, 2).due(true, "answer", 0, 0, 0)
             .due(1, "need", 1, 0).due(true, "answer", 0, 1, 1).refused(STATE, "answer", 1, 1, 1);
+        run("5 one answered riddle after the other").with(1, 4).does("answer", 0, 2, 9).does("answer", 0, 1, 9)
+            .does("hint", 0, 3).refused(STATE, "need", 1, 0).refused(STATE, "need", 2, 0).refused(STATE, "need", 3, 0)
+            .does("answer", 0, 0, 9).refused(STATE, "need", 3, 1);
         run("5 the needs of the last riddle too").with(1, 16).due(false, "answer", 0, 15, 0)
             .refused(STATE, "need", 15, 14).due(1, "need", 14, 13);
     }

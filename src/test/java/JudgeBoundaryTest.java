@@ -10,6 +10,7 @@ public final class JudgeBoundaryTest {
     public static void main(String[] args) {
         clearsOnlyTooSoon();
         clearsOnce();
+        clearsOneRiddleAfterTheOther();
         freeAllTheSame();
         clearThrowsTheFirstThatApplies();
         pardonsAndTakesBack();
@@ -25,6 +26,7 @@ public final class JudgeBoundaryTest {
         linkedNotWithItself();
         cheatedFromTheBoundOn();
         cheatedForAllTeams();
+        cheatedWithAnyOfThem();
         voidOnlyIfSolved();
         voidOverAllSixteen();
         hangingOverAllSixteen();
@@ -56,6 +58,12 @@ public final class JudgeBoundaryTest {
     private static void clearsOnce() {
         quick("13 or was cleared of that", 1).does("answer", 0, 0, 0).due(0, "score", 0).due(false, "clear", 0, 0)
             .refused(STATE, "clear", 0, 0).due(7, "score", 0).does("end").refused(STATE, "clear", 0, 0);
+    }
+
+    private static void clearsOneRiddleAfterTheOther() {
+        quick("13 a second riddle clears nothing of the first", 1).does("addRiddle", 7, 0, 10, 20)
+            .does("answer", 0, 0, 0).does("answer", 0, 1, 0).due(false, "clear", 0, 0).due(false, "clear", 0, 1)
+            .refused(STATE, "clear", 0, 0).refused(STATE, "clear", 0, 1).due(false, "isFree", 0).due(14, "score", 0);
     }
 
     private static void freeAllTheSame() {
@@ -147,6 +155,9 @@ public final class JudgeBoundaryTest {
         run("17 the same answer to another riddle is another one").with(2, 16).does("answer", 0, 0, 9999)
             .does("answer", 1, 15, 9999).due(0, "likeness", 0, 1).does("answer", 0, 15, 9999).due(1, "likeness", 0, 1)
             .does("answer", 1, 0, 9999).due(2, "likeness", 0, 1);
+        run("17 none in common with a team that has given none").with(2, 0).does("addRiddle", 10, 9999, 0, 20)
+            .does("answer", 1, 0, 0).due(0, "likeness", 0, 1).due(0, "likeness", 1, 0)
+            .does("answer", 0, 0, 0).due(1, "likeness", 0, 1);
         run("17 answers next to one another are others").with(2, 1).does("answer", 0, 0, 9999).does("answer", 1, 0, 9998)
             .does("answer", 0, 0, 1).does("answer", 1, 0, 2).due(0, "likeness", 0, 1);
     }
@@ -201,6 +212,13 @@ public final class JudgeBoundaryTest {
             run.due(true, "isCheated", 0, 15).does("pardon", 0, other);
         }
         run.due(false, "isCheated", 0, 15).due(true, "isCheated", 7, 15);
+    }
+
+    private static void cheatedWithAnyOfThem() {
+        run("19 in common with any team with which it is linked").with(3, 3).does("setBound", 1).share(0, 1, 0, 1)
+            .share(0, 2, 2, 1).due(true, "isCheated", 0, 0).due(true, "isCheated", 0, 2).due(false, "isCheated", 0, 1)
+            .due(false, "isCheated", 1, 2).due(false, "isCheated", 2, 0).does("answer", 2, 0, 0)
+            .due(10, "score", 2).due(10, "scoreAnew", 2);
     }
 
     private static void voidOnlyIfSolved() {
